@@ -10,6 +10,10 @@ public final class ProgramDrum {
     private static final int TOO_LONG = 2;
     private static final int MISSING = 3;
 
+    // what change() changes, by its number
+    private static final int NEXT = 2;
+    private static final int BRIBE = 4;
+
     private static final int FIRST_PLACES = 12;
     private static final int MIN_PLACES = 6;
     private static final int MAX_PLACES = 40;
@@ -451,9 +455,9 @@ public final class ProgramDrum {
             case 4:
                 return o == 0 && turnsOnTrial(last);
             case 5:
-                return changesOnTrial(o, 4, last);
+                return changesOnTrial(o, BRIBE, last);
             case 6:
-                return changesOnTrial(o, 2, last == 99 ? NONE : last);
+                return changesOnTrial(o, NEXT, last == 99 ? NONE : last);
             case 7:
                 return isSoonOnTrial(o, last);
             case 8:
@@ -507,7 +511,12 @@ public final class ProgramDrum {
     }
 
     private boolean isShortOnTrial(int o, int ticks) {
-        return trial.has(o) && ticksOfRun(trial, o) <= ticks && probe.lastEnd == TOLD;
+        if (!trial.has(o)) {
+            return false;
+        }
+        int taken = ticksOfRun(trial, o);
+        // the probe has made that run
+        return taken <= ticks && probe.lastEnd == TOLD;
     }
 
     private boolean isCheapOnTrial(int author, int refund) {
@@ -520,7 +529,7 @@ public final class ProgramDrum {
         if (count < 1 || r < 0) {
             return NONE;
         }
-        trial.replace(r / 16 % count, 4, r / 1024 % 100);
+        trial.replace(r / 16 % count, BRIBE, r / 1024 % 100);
         if (r % 4 == 0) {
             trial.layAll();
         }
@@ -800,7 +809,7 @@ public final class ProgramDrum {
 
         int laidOrders() {
             int laid = 0;
-            for (int o = 0; has(o); o++) {
+            for (int o = 0; o < MAX_ORDERS && has(o); o++) {
                 if (place[o] != NONE) {
                     laid++;
                 }
@@ -810,7 +819,7 @@ public final class ProgramDrum {
 
         int ordersOf(int a) {
             int orders = 0;
-            for (int o = 0; has(o); o++) {
+            for (int o = 0; o < MAX_ORDERS && has(o); o++) {
                 if (author[o] == a) {
                     orders++;
                 }
@@ -819,7 +828,7 @@ public final class ProgramDrum {
         }
 
         int orderOn(int p) {
-            for (int o = 0; has(o); o++) {
+            for (int o = 0; o < MAX_ORDERS && has(o); o++) {
                 if (place[o] == p) {
                     return o;
                 }
@@ -915,7 +924,7 @@ public final class ProgramDrum {
         }
 
         void takeAllOff() {
-            for (int o = 0; has(o); o++) {
+            for (int o = 0; o < MAX_ORDERS && has(o); o++) {
                 put(o, NONE);
             }
         }
@@ -937,7 +946,7 @@ public final class ProgramDrum {
         /** The order whose turn to be laid is behind that of the order last (NONE: the very first one's). */
         private int laidBehind(int last) {
             int best = NONE;
-            for (int o = 0; has(o); o++) {
+            for (int o = 0; o < MAX_ORDERS && has(o); o++) {
                 boolean isBehind = !has(last) || bribe[o] < bribe[last] || bribe[o] == bribe[last] && o > last;
                 if (isBehind && (best == NONE || bribe[o] > bribe[best])) {
                     best = o;
@@ -963,7 +972,7 @@ public final class ProgramDrum {
         }
 
         private int wantedPlace(int o) {
-            for (int before = 0; has(before); before++) {
+            for (int before = 0; before < MAX_ORDERS && has(before); before++) {
                 if (place[before] != NONE && next[before] == o) {
                     return around(place[before] + 1 + work[before]);
                 }
