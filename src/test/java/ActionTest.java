@@ -19,14 +19,14 @@ public final class ActionTest {
         Check.end("ActionTest");
     }
 
-    private static void numbers(ProgramDrum x, String when, int what, int... due) {
+    private static void numbers(Drum x, String when, int what, int... due) {
         for (int o = 0; o < due.length; o++) {
             Check.is(when + ": order " + o + " " + what, due[o], x.order(o, what));
         }
     }
 
     private static void setsDrum() {
-        ProgramDrum x = Check.loaded("D12o0101--50o1202--30");
+        Drum x = Drum.loaded("D12o0101--50o1202--30");
         x.lay();
         x.turn(13);
         Check.is("setDrum(6)", 12, x.setDrum(6));
@@ -41,11 +41,11 @@ public final class ActionTest {
         Check.is("refunded to 1", 30, x.author(1, 2));
         Check.fails("setDrum(5)", Check.ARGUMENT, x, () -> x.setDrum(5));
         Check.fails("setDrum(41)", Check.ARGUMENT, x, () -> x.setDrum(41));
-        Check.is("remembered", 5, Check.undoAll(x));
+        Check.is("remembered", 5, x.undoAll());
     }
 
     private static void addsOrders() {
-        ProgramDrum x = new ProgramDrum();
+        Drum x = new Drum();
         Check.is("addOrder", 0, x.addOrder(0, 1, -1, -1, 0));
         Check.is("addOrder", 1, x.addOrder(3, 9, 15, 15, 99));
         int[] due = {3, 9, 15, 15, 99, -1, -1, 0, -1};
@@ -70,7 +70,7 @@ public final class ActionTest {
     }
 
     private static void changes() {
-        ProgramDrum x = Check.loaded("D12o1501--50o21----10");
+        Drum x = Drum.loaded("D12o1501--50o21----10");
         x.lay();
         int[][] right = {{0, 1, 3}, {0, 3, 0}, {1, 5, 1}, {1, 1, 9}, {2, 1, -1}, {2, -1, 15}, {3, -1, 15}, {3, 15, -1},
             {3, -1, 0}, {4, 50, 0}, {4, 0, 99}};
@@ -92,11 +92,11 @@ public final class ActionTest {
             Check.is("undo", i + 1, x.undo());
             Check.is("change undone", right[i][1], x.order(0, right[i][0]));
         }
-        Check.is("remembered", 1, Check.undoAll(x));
+        Check.is("remembered", 1, x.undoAll());
     }
 
     private static void moves() {
-        ProgramDrum x = Check.loaded("D12o11----50o21----10o31----00");
+        Drum x = Drum.loaded("D12o11----50o21----10o31----00");
         Check.is("onto the drum", 0, x.move(2, 11));
         Check.is("at 11", 2, x.at(11));
         x.lay();
@@ -114,11 +114,11 @@ public final class ActionTest {
         Check.fails("to place -1", Check.INDEX, x, () -> x.move(0, -1));
         Check.fails("no order", Check.INDEX, x, () -> x.move(3, 7));
         Check.fails("order -1", Check.INDEX, x, () -> x.move(-1, 0));
-        Check.is("remembered", 5, Check.undoAll(x));
+        Check.is("remembered", 5, x.undoAll());
     }
 
     private static void laid(String program, int sum, int... places) {
-        ProgramDrum x = Check.loaded(program);
+        Drum x = Drum.loaded(program);
         Check.is("lay of " + program, sum, x.lay());
         numbers(x, program, 5, places);
     }
@@ -128,7 +128,7 @@ public final class ActionTest {
         laid("D12o01----10o01----10o01----10", 3, 0, 1, 2);
         laid("D12o01----10o01----30o01----20", 3, 2, 0, 1);
         laid("D12o01----00o01----99o01----00", 3, 1, 0, 2);
-        ProgramDrum x = Check.loaded("D12o01----10o01----30o01----20");
+        Drum x = Drum.loaded("D12o01----10o01----30o01----20");
         x.lay();
         numbers(x, "delays", 6, 2, 0, 1);
         numbers(x, "open", 7, 10, 30, 20);
@@ -153,7 +153,7 @@ public final class ActionTest {
     }
 
     private static void laysWithoutRoom() {
-        ProgramDrum x = Check.loaded("D06" + "o11----10".repeat(6) + "o21----10o31----50");
+        Drum x = Drum.loaded("D06" + "o11----10".repeat(6) + "o21----10o31----50");
         Check.is("lay without room", 0 + 1 + 2 + 3 + 4 + 5, x.lay());
         numbers(x, "without room", 5, 1, 2, 3, 4, 5, -1, -1, 0);
         numbers(x, "without room", 6, 1, 2, 3, 4, 5, -1, -1, 0);
@@ -163,7 +163,7 @@ public final class ActionTest {
     }
 
     private static void laysAgain() {
-        ProgramDrum x = Check.loaded("D12o11----50o21----10");
+        Drum x = Drum.loaded("D12o11----50o21----10");
         x.lay();
         x.change(0, 4, 5);
         Check.is("lay again", 1, x.lay());
@@ -177,7 +177,7 @@ public final class ActionTest {
     }
 
     private static void runsAsTold() {
-        ProgramDrum x = Check.loaded("D12o0301--50o1202--30o21--0120");
+        Drum x = Drum.loaded("D12o0301--50o1202--30o21--0120");
         x.lay();
         x.turn(7);
         Check.is("run(0)", 0, x.run(0));
@@ -192,7 +192,7 @@ public final class ActionTest {
     }
 
     private static void runsForged() {
-        ProgramDrum x = Check.loaded("D12o0301--50o1202--30o21--0020");
+        Drum x = Drum.loaded("D12o0301--50o1202--30o21--0020");
         x.lay();
         Check.is("forged", 1, x.run(0));
         Check.is("the tick", 7, x.about(2));
@@ -212,25 +212,25 @@ public final class ActionTest {
     }
 
     private static void runsTooLong() {
-        ProgramDrum x = Check.loaded("D12o0900--50");
+        Drum x = Drum.loaded("D12o0900--50");
         x.move(0, 11);
         Check.is("too long", 2, x.run(0));
         Check.is("99 are read", 1197, x.about(2));
         Check.is("99 jumps", 99, x.jump(0, 2));
         // 97 orders back and forth, then a 98th and 99th, then the end
-        ProgramDrum y = Check.loaded("D06o0101--00o0100--00");
+        Drum y = Drum.loaded("D06o0101--00o0100--00");
         y.lay();
         Check.is("too long in a ring of two", 2, y.run(0));
         Check.is("jumps there", 50, y.jump(0, 2));
         Check.is("jumps back", 49, y.jump(1, 2));
-        ProgramDrum z = Check.loaded("D06o0100--00");
+        Drum z = Drum.loaded("D06o0100--00");
         z.lay();
         z.change(0, 3, 3);
         Check.is("forged at once", 1, z.run(0));
     }
 
     private static void runsMissing() {
-        ProgramDrum x = Check.loaded("D12o0101--50o1202--30");
+        Drum x = Drum.loaded("D12o0101--50o1202--30");
         Check.is("without a place", 3, x.run(0));
         Check.is("the tick stays", 0, x.about(2));
         Check.is("no jump", 0, x.about(8));
@@ -244,13 +244,13 @@ public final class ActionTest {
 
     private static void keepsOrRefunds() {
         // 1 is laid at 2, right behind 0, and waited for not at all
-        ProgramDrum x = Check.loaded("D12o0101--50o1102--30o21----20");
+        Drum x = Drum.loaded("D12o0101--50o1102--30o21----20");
         x.lay();
         x.run(0);
         numbers(x, "kept", 7, 50, 0, 0);
         Check.is("nothing refunded", 0, x.about(6));
         // a greater work of 0 makes 1 late
-        ProgramDrum y = Check.loaded("D12o0101--50o1102--30o21----20");
+        Drum y = Drum.loaded("D12o0101--50o1102--30o21----20");
         y.lay();
         y.change(0, 1, 2);
         y.change(1, 4, 99);
@@ -261,7 +261,7 @@ public final class ActionTest {
         Check.is("refunded is what was paid", 30, y.about(6));
         Check.is("refunded to the author of now", 30, y.author(3, 2));
         // begun with, also when late, it stays open
-        ProgramDrum z = Check.loaded("D12o0100--50");
+        Drum z = Drum.loaded("D12o0100--50");
         z.lay();
         z.turn(3);
         z.change(0, 2, -1);
@@ -277,7 +277,7 @@ public final class ActionTest {
     }
 
     private static void turns() {
-        ProgramDrum x = new ProgramDrum();
+        Drum x = new Drum();
         Check.is("turn(1)", 1, x.turn(1));
         Check.is("turn(99)", 4, x.turn(99));
         Check.is("the tick", 100, x.about(2));
@@ -285,33 +285,33 @@ public final class ActionTest {
         Check.fails("turn(0)", Check.ARGUMENT, x, () -> x.turn(0));
         Check.fails("turn(100)", Check.ARGUMENT, x, () -> x.turn(100));
         Check.fails("turn(-1)", Check.ARGUMENT, x, () -> x.turn(-1));
-        Check.is("remembered", 3, Check.undoAll(x));
+        Check.is("remembered", 3, x.undoAll());
         Check.is("the tick", 0, x.about(2));
     }
 
     private static void undoes() {
-        ProgramDrum x = Check.loaded("D12o0101--50o1102--30");
+        Drum x = Drum.loaded("D12o0101--50o1102--30");
         String[] views = new String[9];
-        views[0] = Check.view(x);
+        views[0] = x.view();
         x.lay();
-        views[1] = Check.view(x);
+        views[1] = x.view();
         x.run(0);
-        views[2] = Check.view(x);
+        views[2] = x.view();
         x.turn(5);
-        views[3] = Check.view(x);
+        views[3] = x.view();
         x.move(0, 9);
-        views[4] = Check.view(x);
+        views[4] = x.view();
         x.change(1, 2, 1);
-        views[5] = Check.view(x);
+        views[5] = x.view();
         x.addOrder(1, 2, 3, 4, 5);
-        views[6] = Check.view(x);
+        views[6] = x.view();
         x.run(1);
-        views[7] = Check.view(x);
+        views[7] = x.view();
         x.setDrum(9);
-        views[8] = Check.view(x);
+        views[8] = x.view();
         for (int i = 7; i >= 0; i--) {
             Check.is("undo", i, x.undo());
-            Check.is("undone", views[i], Check.view(x));
+            Check.is("undone", views[i], x.view());
         }
         Check.fails("nothing to undo", Check.STATE, x, x::undo);
         undoesFourteen();
@@ -319,7 +319,7 @@ public final class ActionTest {
     }
 
     private static void undoesJumps() {
-        ProgramDrum x = Check.loaded("D12o0101--50o11----30");
+        Drum x = Drum.loaded("D12o0101--50o11----30");
         x.lay();
         x.run(0);
         x.run(0);
@@ -334,7 +334,7 @@ public final class ActionTest {
     }
 
     private static void undoesFourteen() {
-        ProgramDrum x = new ProgramDrum();
+        Drum x = new Drum();
         for (int i = 1; i <= 17; i++) {
             x.turn(i);
         }
@@ -342,11 +342,11 @@ public final class ActionTest {
         Check.is("the tick", 136, x.about(2));
         x.setDrum(12);
         Check.is("undo of what changes nothing", 13, x.undo());
-        Check.is("thirteen more", 13, Check.undoAll(x));
+        Check.is("thirteen more", 13, x.undoAll());
         Check.is("the oldest are forgotten", 6, x.about(2));
         x.turn(1);
         Check.is("one is remembered", 0, x.undo());
-        Check.write(x, "D12");
+        x.write("D12");
         x.turn(1);
         x.undo();
         Check.is("undo leaves the text", 3, x.clearText());

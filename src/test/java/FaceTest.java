@@ -103,11 +103,11 @@ public final class FaceTest {
     private static void makesNoObjects() {
         com.sun.management.ThreadMXBean threads = (com.sun.management.ThreadMXBean) ManagementFactory.getThreadMXBean();
         long id = Thread.currentThread().getId();
-        ProgramDrum x = Check.loaded("D12o0301--50o1202--30o21----20");
+        ProgramDrum x = new ProgramDrum();
         allCalls(x);
         threads.getThreadAllocatedBytes(id);
         long before = threads.getThreadAllocatedBytes(id);
-        for (int i = 0; i < 10; i++) {
+        for (int i = 0; i < 6; i++) {
             allCalls(x);
         }
         long made = threads.getThreadAllocatedBytes(id) - before;
@@ -115,12 +115,12 @@ public final class FaceTest {
     }
 
     private static void allCalls(ProgramDrum x) {
-        x.load();
-        x.append('x');
         x.clearText();
         for (int i = 0; i < 30; i++) {
             x.append("D12o0301--50o1202--30o21----20".charAt(i));
         }
+        x.errorPosition();
+        x.load();
         x.save(0);
         x.addOrder(0, 1, 2, 3, 4);
         x.lay();

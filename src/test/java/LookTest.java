@@ -15,7 +15,7 @@ public final class LookTest {
     }
 
     private static void isNew() {
-        ProgramDrum x = new ProgramDrum();
+        Drum x = new Drum();
         int[] due = {12, 0, 0, 0, 0, 0, 0, 0, 0, -1};
         for (int what = 0; what < due.length; what++) {
             Check.is("new: about " + what, due[what], x.about(what));
@@ -36,14 +36,14 @@ public final class LookTest {
         Check.is("NONE", -1, ProgramDrum.NONE);
     }
 
-    private static void about(ProgramDrum x, String when, int... due) {
+    private static void about(Drum x, String when, int... due) {
         for (int what = 0; what < due.length; what++) {
             Check.is(when + ": about " + what, due[what], x.about(what));
         }
     }
 
     private static void tellsAbout() {
-        ProgramDrum x = Check.loaded(LINE);
+        Drum x = Drum.loaded(LINE);
         x.lay();
         about(x, "laid", 12, 3, 0, 0, 3, 100, 0, 100, 0, -1);
         x.run(0);
@@ -64,14 +64,14 @@ public final class LookTest {
         Check.fails("about(10)", Check.ARGUMENT, x, () -> x.about(10));
     }
 
-    private static void order(ProgramDrum x, String when, int o, int... due) {
+    private static void order(Drum x, String when, int o, int... due) {
         for (int what = 0; what < due.length; what++) {
             Check.is(when + ": order " + o + " " + what, due[what], x.order(o, what));
         }
     }
 
     private static void tellsOfOrders() {
-        ProgramDrum x = Check.loaded(LINE);
+        Drum x = Drum.loaded(LINE);
         order(x, "loaded", 2, 2, 1, -1, 0, 20, -1, -1, 0, -1);
         x.lay();
         order(x, "laid", 0, 0, 3, 1, -1, 50, 0, 0, 50, -1);
@@ -95,7 +95,7 @@ public final class LookTest {
     }
 
     private static void tellsOfAuthors() {
-        ProgramDrum x = Check.loaded("D12o01----50o01----30o31----20");
+        Drum x = Drum.loaded("D12o01----50o01----30o31----20");
         x.lay();
         int[][] laid = {{2, 80, 0}, {0, 0, 0}, {0, 0, 0}, {1, 20, 0}};
         authors(x, "laid", laid);
@@ -111,7 +111,7 @@ public final class LookTest {
         Check.fails("author(3, -1)", Check.ARGUMENT, x, () -> x.author(3, -1));
     }
 
-    private static void authors(ProgramDrum x, String when, int[][] due) {
+    private static void authors(Drum x, String when, int[][] due) {
         for (int a = 0; a < 4; a++) {
             for (int what = 0; what < 3; what++) {
                 Check.is(when + ": author " + a + " " + what, due[a][what], x.author(a, what));
@@ -120,7 +120,7 @@ public final class LookTest {
     }
 
     private static void tellsWhatStandsWhere() {
-        ProgramDrum x = Check.loaded(LINE);
+        Drum x = Drum.loaded(LINE);
         x.lay();
         int[] due = {0, -1, -1, -1, 1, -1, -1, 2, -1, -1, -1, -1};
         for (int place = 0; place < 12; place++) {
@@ -135,7 +135,7 @@ public final class LookTest {
         Check.fails("at(6)", Check.INDEX, x, () -> x.at(6));
     }
 
-    private static void jumps(ProgramDrum x, int[][] due) {
+    private static void jumps(Drum x, int[][] due) {
         Check.is("different jumps", due.length, x.about(8));
         for (int i = 0; i < due.length; i++) {
             for (int what = 0; what < 3; what++) {
@@ -146,7 +146,7 @@ public final class LookTest {
     }
 
     private static void tellsJumps() {
-        ProgramDrum x = Check.loaded("D12o0102--50o0102--40o010101--".replace("01--", "0100") + "o0115--10");
+        Drum x = Drum.loaded("D12o0102--50o0102--40o010101--".replace("01--", "0100") + "o0115--10");
         jumps(x, new int[][] {});
         x.lay();
         x.run(3);
@@ -168,33 +168,44 @@ public final class LookTest {
         keepsAllJumps();
     }
 
-    /** 16 orders can make 256 different jumps. */
+    /** 16 orders can make 256 different jumps: each one to the one that is so many further. */
     private static void keepsAllJumps() {
-        ProgramDrum x = Check.loaded("D40" + "o01----00".repeat(16));
+        Drum x = new Drum();
+        x.setDrum(40);
+        for (int o = 0; o < 16; o++) {
+            x.addOrder(0, 1, 0, -1, 0);
+        }
         x.lay();
-        for (int from = 0; from < 16; from++) {
-            for (int to = 0; to < 16; to++) {
-                if (to != from) {
-                    x.change(from, 2, to);
-                    x.run(from);
-                    x.undo();
-                    x.run(from);
-                }
+        for (int further = 15; further >= 0; further--) {
+            for (int o = 0; o < 16; o++) {
+                x.change(o, 2, (o + further) % 16);
             }
-            x.change(from, 2, -1);
+            // the jumps lead around in as many rings
+            int rings = gcd(16, further);
+            for (int o = 0; o < rings; o++) {
+                x.run(o);
+            }
+            Check.is("jumps to those " + further + " further and more", 16 * (16 - further), x.about(8));
         }
-        Check.is("jumps to all the others", 240, x.about(8));
-        for (int from = 0; from < 16; from++) {
-            x.change(from, 2, from);
-            x.run(from);
-        }
-        Check.is("jumps to all", 256, x.about(8));
+        x.save(0);
+        x.turn(1);
+        Check.is("another run makes no other jump", 2, x.run(0));
+        x.undo();
+        x.restore(0);
+        Check.is("all jumps are kept", 256, x.about(8));
+        Check.is("the last jump but 15", 0, x.jump(240, 0));
         Check.is("the last jump", 15, x.jump(255, 0));
+        Check.is("the last jump", 15, x.jump(255, 1));
+        Check.is("the last jump", 99, x.jump(255, 2));
         Check.is("no further jump", -1, x.jump(256, 0));
     }
 
+    private static int gcd(int a, int b) {
+        return b == 0 ? a : gcd(b, a % b);
+    }
+
     private static void link(String program, int o, int chain, int ring) {
-        ProgramDrum x = Check.loaded("D06" + program);
+        Drum x = Drum.loaded("D06" + program);
         Check.is(program + ": chain " + o, chain, x.chain(o));
         Check.is(program + ": ring " + o, ring, x.ring(o));
     }
@@ -217,7 +228,7 @@ public final class LookTest {
         link(all.toString(), 9, 16, 16);
         link(all.substring(0, 135) + "o0115--00", 0, 16, 1);
         link(all.substring(0, 135) + "o01----00", 0, 16, 0);
-        ProgramDrum x = Check.loaded("D06o0101--00");
+        Drum x = Drum.loaded("D06o0101--00");
         Check.fails("chain(1)", Check.INDEX, x, () -> x.chain(1));
         Check.fails("chain(-1)", Check.INDEX, x, () -> x.chain(-1));
         Check.fails("ring(1)", Check.INDEX, x, () -> x.ring(1));

@@ -11,42 +11,63 @@ public final class ModelTest {
     private static final int[] EDGES = {Integer.MIN_VALUE, Integer.MAX_VALUE, -2, -1, 0, 1, 2, 3, 4, 5, 6, 8, 9, 10, 15, 16,
         17, 39, 40, 41, 99, 100, 255, 256};
 
+    private static final int MOST_CALLS = 512;
+
     public static void main(String[] args) {
         Random random = new Random(20261119);
-        for (int run = 0; run < 120; run++) {
+        for (int run = 0; run < 1500; run++) {
             oneRun(run, random);
         }
         Check.end("ModelTest");
     }
 
     private static void oneRun(int run, Random random) {
-        ProgramDrum x = new ProgramDrum();
-        Model model = new Model();
-        int calls = 0;
+        Pair pair = new Pair(run);
         String program = program(random);
         if (random.nextBoolean()) {
             for (char c : program.toCharArray()) {
-                calls++;
-                both(run, calls, x, model, "append", new long[] {c});
+                pair.call("append", c);
             }
-            both(run, ++calls, x, model, "errorPosition", new long[0]);
-            both(run, ++calls, x, model, "load", new long[0]);
+            pair.call("errorPosition");
+            pair.call("load");
         }
         // in some runs layings and setDrum are rare, so that jumps and moves add up
         boolean calm = random.nextInt(3) == 0;
-        while (calls++ < 512) {
+        int lookBehind = pair.calls + random.nextInt(MOST_CALLS - pair.calls);
+        while (pair.calls < MOST_CALLS) {
             String name = random.nextInt(3) > 0 ? OFTEN[random.nextInt(OFTEN.length)] : NAMES[random.nextInt(NAMES.length)];
             boolean rare = name.equals("load") || name.equals("clearText") || name.equals("setDrum")
                     || name.equals("undo") || name.equals("restore");
             if (rare && random.nextInt(calm ? 40 : 4) > 0) {
                 continue;
             }
-            both(run, calls, x, model, name, arguments(name, random, x));
-            if (random.nextInt(20) == 0) {
-                compareView(run, calls, x, model);
+            pair.call(name, arguments(name, random, pair.model));
+            if (pair.calls > lookBehind) {
+                lookAtAll(pair);
+                lookBehind = MOST_CALLS;
             }
         }
-        compareView(run, calls, x, model);
+    }
+
+    /** A new object and a new Model that get the same calls, 512 at most. */
+    private static final class Pair {
+        private final int run;
+        private final ProgramDrum drum = new ProgramDrum();
+        private final Model model = new Model();
+        private int calls = 0;
+
+        Pair(int run) {
+            this.run = run;
+        }
+
+        void call(String name, long... a) {
+            if (calls < MOST_CALLS) {
+                calls++;
+                String due = Check.answer(() -> model.call(name, a));
+                String got = Check.answer(() -> Calls.call(drum, name, a));
+                Check.is("run " + run + ", call " + calls + ": " + name + Arrays.toString(a), due, got);
+            }
+        }
     }
 
     private static String program(Random random) {
@@ -69,8 +90,8 @@ public final class ModelTest {
         return random.nextInt(4) == 0 ? "--" : String.format("%02d", random.nextInt(16));
     }
 
-    private static long[] arguments(String name, Random random, ProgramDrum x) {
-        int orders = Math.max(1, x.about(1));
+    private static long[] arguments(String name, Random random, Model model) {
+        int orders = Math.max(1, number(model, 1));
         int o = random.nextInt(orders);
         long[] a;
         switch (name) {
@@ -78,13 +99,13 @@ public final class ModelTest {
             case "about": a = new long[] {random.nextInt(10)}; break;
             case "order": a = new long[] {o, random.nextInt(9)}; break;
             case "author": a = new long[] {random.nextInt(4), random.nextInt(3)}; break;
-            case "at": a = new long[] {random.nextInt(x.about(0))}; break;
-            case "jump": a = new long[] {random.nextInt(x.about(8) + 2), random.nextInt(3)}; break;
+            case "at": a = new long[] {random.nextInt(number(model, 0))}; break;
+            case "jump": a = new long[] {random.nextInt(number(model, 8) + 2), random.nextInt(3)}; break;
             case "setDrum": a = new long[] {6 + random.nextInt(35)}; break;
             case "addOrder": a = new long[] {random.nextInt(4), 1 + random.nextInt(9), random.nextInt(17) - 1,
                 random.nextInt(3) > 0 ? -1 : random.nextInt(17) - 1, random.nextInt(100)}; break;
             case "change": a = change(random, o, orders); break;
-            case "move": a = new long[] {o, random.nextInt(x.about(0))}; break;
+            case "move": a = new long[] {o, random.nextInt(number(model, 0))}; break;
             case "turn": a = new long[] {1 + random.nextInt(99)}; break;
             case "bestPlace": a = new long[] {o, random.nextInt(orders)}; break;
             case "runScript": a = script(random, orders); break;
@@ -126,71 +147,33 @@ public final class ModelTest {
         return new long[] {random.nextInt(20) == 0 ? n - 1 : n, script};
     }
 
-    private static void compareView(int run, int calls, ProgramDrum x, Model model) {
+    private static void lookAtAll(Pair pair) {
+        int orders = number(pair.model, 1);
         for (int what = 0; what <= 9; what++) {
-            both(run, calls, x, model, "about", new long[] {what});
-        }
-        for (int o = 0; o < x.about(1); o++) {
-            for (int what = 0; what <= 8; what++) {
-                both(run, calls, x, model, "order", new long[] {o, what});
-            }
-            for (String name : new String[] {"chain", "ring", "waits", "time", "leastBribe", "saves"}) {
-                both(run, calls, x, model, name, new long[] {o});
-            }
+            pair.call("about", what);
         }
         for (int a = 0; a < 12; a++) {
-            both(run, calls, x, model, "author", new long[] {a / 3, a % 3});
+            pair.call("author", a / 3, a % 3);
         }
-        for (int place = 0; place < x.about(0); place++) {
-            both(run, calls, x, model, "at", new long[] {place});
+        for (int o = 0; o < orders; o++) {
+            for (int what = 0; what <= 8; what++) {
+                pair.call("order", o, what);
+            }
+            for (String name : new String[] {"chain", "ring", "waits", "time", "leastBribe", "saves"}) {
+                pair.call(name, o);
+            }
         }
-        for (int i = 0; i <= x.about(8); i++) {
+        for (int place = 0; place < number(pair.model, 0); place++) {
+            pair.call("at", place);
+        }
+        for (int i = 0; i <= number(pair.model, 8); i++) {
             for (int what = 0; what < 3; what++) {
-                both(run, calls, x, model, "jump", new long[] {i, what});
+                pair.call("jump", i, what);
             }
         }
     }
 
-    private static void both(int run, int calls, ProgramDrum x, Model model, String name, long[] a) {
-        String due = Check.answer(() -> model.call(name, a));
-        String got = Check.answer(() -> call(x, name, a));
-        Check.is("run " + run + ", call " + calls + ": " + name + Arrays.toString(a), due, got);
-    }
-
-    private static int call(ProgramDrum x, String name, long[] a) {
-        int a0 = a.length > 0 ? (int) a[0] : 0;
-        int a1 = a.length > 1 ? (int) a[1] : 0;
-        int a2 = a.length > 2 ? (int) a[2] : 0;
-        switch (name) {
-            case "append": return x.append(a0);
-            case "clearText": return x.clearText();
-            case "errorPosition": return x.errorPosition();
-            case "load": return x.load();
-            case "about": return x.about(a0);
-            case "order": return x.order(a0, a1);
-            case "author": return x.author(a0, a1);
-            case "at": return x.at(a0);
-            case "jump": return x.jump(a0, a1);
-            case "chain": return x.chain(a0);
-            case "ring": return x.ring(a0);
-            case "setDrum": return x.setDrum(a0);
-            case "addOrder": return x.addOrder(a0, a1, a2, (int) a[3], (int) a[4]);
-            case "change": return x.change(a0, a1, a2);
-            case "move": return x.move(a0, a1);
-            case "lay": return x.lay();
-            case "run": return x.run(a0);
-            case "turn": return x.turn(a0);
-            case "undo": return x.undo();
-            case "waits": return x.waits(a0);
-            case "time": return x.time(a0);
-            case "bestPlace": return x.bestPlace(a0, a1);
-            case "leastBribe": return x.leastBribe(a0);
-            case "saves": return x.saves(a0);
-            case "runScript": return x.runScript(a0, a[1]);
-            case "simulate": return x.simulate(a[0], a1);
-            case "save": return x.save(a0);
-            case "restore": return x.restore(a0);
-            default: throw new AssertionError(name);
-        }
+    private static int number(Model model, long what) {
+        return model.call("about", new long[] {what});
     }
 }

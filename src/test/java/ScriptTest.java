@@ -11,20 +11,20 @@ public final class ScriptTest {
         Check.end("ScriptTest");
     }
 
-    private static ProgramDrum laid() {
-        ProgramDrum x = Check.loaded(LINE);
+    private static Drum laid() {
+        Drum x = Drum.loaded(LINE);
         x.lay();
         return x;
     }
 
-    private static void script(ProgramDrum x, int n, long script, int due) {
-        String before = Check.view(x);
+    private static void script(Drum x, int n, long script, int due) {
+        String before = x.view();
         Check.is("runScript(" + n + ", " + script + ")", due, x.runScript(n, script));
-        Check.is("runScript(" + n + ", " + script + ") changes nothing", before, Check.view(x));
+        Check.is("runScript(" + n + ", " + script + ") changes nothing", before, x.view());
     }
 
     private static void runsEachCommand() {
-        ProgramDrum x = laid();
+        Drum x = laid();
         int[] succeed = {10000, 10200, 20000, 30001, 30111, 30000, 40001, 40099, 50000, 50299, 60000, 60215, 60199, 70000,
             70104, 70207, 80201, 90000, 93999};
         for (int command : succeed) {
@@ -42,11 +42,11 @@ public final class ScriptTest {
         script(x, 1, 90050, -1);
         script(x, 1, 92019, 0);
         script(x, 1, 92020, -1);
-        Check.is("a script is no action", 2, Check.undoAll(x));
+        Check.is("a script is no action", 2, x.undoAll());
     }
 
     private static void runsSeveral() {
-        ProgramDrum x = laid();
+        Drum x = laid();
         // after run(0) it is the tick 7
         script(x, 2, 10000_70200L, -1);
         script(x, 2, 10000_70104L, 1);
@@ -78,7 +78,7 @@ public final class ScriptTest {
         // what a script has changed counts in it
         script(x, 2, 40003_70009L, -1);
         script(x, 2, 40003_70008L, 1);
-        ProgramDrum y = Check.loaded("D12o09----00o0900--00");
+        Drum y = Drum.loaded("D12o09----00o0900--00");
         script(y, 2, 30000_70000L, -1);
         script(y, 2, 30103_70103L, -1);
         // a run from 0 takes 10 ticks, one from 1 takes 20
@@ -96,7 +96,7 @@ public final class ScriptTest {
     }
 
     private static void refusesScripts() {
-        ProgramDrum x = laid();
+        Drum x = laid();
         Check.fails("n = 0", Check.ARGUMENT, x, () -> x.runScript(0, 0L));
         Check.fails("n = 4", Check.ARGUMENT, x, () -> x.runScript(4, 20000L));
         Check.fails("a negative script", Check.ARGUMENT, x, () -> x.runScript(1, -1L));
@@ -111,7 +111,7 @@ public final class ScriptTest {
     }
 
     /** Does on the object itself, call by call, what a simulation does on a copy. */
-    private static int twin(ProgramDrum x, long seed, int m) {
+    private static int twin(Drum x, long seed, int m) {
         long s = seed;
         int told = 0;
         int before = x.about(6);
@@ -131,29 +131,29 @@ public final class ScriptTest {
         long[] seeds = {0, 1, -1, 5, 77, Long.MIN_VALUE, Long.MAX_VALUE, 123456789012345L};
         for (long seed : seeds) {
             for (int m : new int[] {1, 2, 3, 7, 20, 50}) {
-                ProgramDrum x = laid();
+                Drum x = laid();
                 x.change(2, 3, 1);
                 x.turn(5);
                 x.move(1, 8);
-                String before = Check.view(x);
+                String before = x.view();
                 int answer = x.simulate(seed, m);
-                Check.is("simulate changes nothing", before, Check.view(x));
+                Check.is("simulate changes nothing", before, x.view());
                 Check.is("simulate(" + seed + ", " + m + ")", twin(x, seed, m), answer);
             }
         }
         simulatesTheLeastAndTheGreatest();
-        ProgramDrum one = Check.loaded("D12o03----50");
+        Drum one = Drum.loaded("D12o03----50");
         one.lay();
         int answer = one.simulate(9, 20);
         Check.is("one order ends as told each time", 20, answer / 1000);
         Check.is("with one order", twin(one, 9, 20), answer);
-        ProgramDrum none = new ProgramDrum();
+        Drum none = new Drum();
         Check.is("without orders", 0, none.simulate(1, 50));
-        ProgramDrum x = laid();
+        Drum x = laid();
         Check.fails("m = 0", Check.ARGUMENT, x, () -> x.simulate(1, 0));
         Check.fails("m = 51", Check.ARGUMENT, x, () -> x.simulate(1, 51));
         Check.fails("m = -1", Check.ARGUMENT, x, () -> x.simulate(1, -1));
-        Check.is("simulate is no action", 1, Check.undoAll(x));
+        Check.is("simulate is no action", 1, x.undoAll());
     }
 
     /** Seeds whose first r is 0, the greatest one, and some between. */
@@ -164,7 +164,7 @@ public final class ScriptTest {
         }
         for (long r : new long[] {0, 1, 3, 4, Integer.MAX_VALUE, Integer.MAX_VALUE - 3}) {
             long seed = ((r << 33) - 1442695040888963407L) * inverse;
-            ProgramDrum x = laid();
+            Drum x = laid();
             x.move(0, 5);
             int answer = x.simulate(seed, 1);
             Check.is("simulate with r = " + r, twin(x, seed, 1), answer);
@@ -173,7 +173,7 @@ public final class ScriptTest {
     }
 
     private static void simulatesTheCap() {
-        ProgramDrum x = Check.loaded("D40" + "o01----99".repeat(16));
+        Drum x = Drum.loaded("D40" + "o01----99".repeat(16));
         x.lay();
         Check.is("more than 999 refunded", 50999, x.simulate(3, 50));
         x.setDrum(40);

@@ -15,7 +15,7 @@ public final class TextTest {
     }
 
     private static void appends() {
-        ProgramDrum x = new ProgramDrum();
+        Drum x = new Drum();
         Check.is("append(0)", 1, x.append(0));
         Check.is("append(255)", 2, x.append(255));
         Check.fails("append(-1)", Check.ARGUMENT, x, () -> x.append(-1));
@@ -26,21 +26,21 @@ public final class TextTest {
         Check.fails("append to a full text", Check.STATE, x, () -> x.append('o'));
         Check.fails("append(256) to a full text", Check.ARGUMENT, x, () -> x.append(256));
         Check.is("length of a full text", 160, x.clearText());
-        Check.is("append is no action", 0, Check.undoAll(x));
+        Check.is("append is no action", 0, x.undoAll());
     }
 
     private static void clears() {
-        ProgramDrum x = new ProgramDrum();
+        Drum x = new Drum();
         Check.is("clearText of nothing", 0, x.clearText());
-        Check.write(x, "D12");
+        x.write("D12");
         Check.is("clearText", 3, x.clearText());
         Check.is("clearText again", 0, x.clearText());
         Check.is("append behind it", 1, x.append('D'));
     }
 
     private static void error(String text, int due) {
-        ProgramDrum x = new ProgramDrum();
-        Check.write(x, text);
+        Drum x = new Drum();
+        x.write(text);
         Check.is("errorPosition of " + text, due, x.errorPosition());
         Check.is("text stays " + text, text.length(), x.clearText());
     }
@@ -116,7 +116,7 @@ public final class TextTest {
     }
 
     private static void loads() {
-        ProgramDrum x = Check.loaded("D40o39150099o01--1500");
+        Drum x = Drum.loaded("D40o39150099o01--1500");
         Check.is("places", 40, x.about(0));
         Check.is("orders", 2, x.about(1));
         int[][] due = {{3, 9, 15, 0, 99, -1, -1, 0, -1}, {0, 1, -1, 15, 0, -1, -1, 0, -1}};
@@ -132,14 +132,14 @@ public final class TextTest {
     }
 
     private static int loadOf(String program) {
-        ProgramDrum x = new ProgramDrum();
-        Check.write(x, program);
+        Drum x = new Drum();
+        x.write(program);
         return x.load();
     }
 
     private static void loadForgets() {
-        ProgramDrum x = Check.loaded("D12o0101--50o0200--30");
-        String fresh = Check.view(x);
+        Drum x = Drum.loaded("D12o0101--50o0200--30");
+        String fresh = x.view();
         x.lay();
         x.run(0);
         x.turn(1);
@@ -149,20 +149,20 @@ public final class TextTest {
         x.save(0);
         x.save(1);
         Check.is("load", 2, x.load());
-        Check.is("all is as fresh", fresh, Check.view(x));
+        Check.is("all is as fresh", fresh, x.view());
         Check.is("no state is remembered", "throws IllegalStateException", Check.answer(x::undo));
         Check.is("slot 0 is empty", "throws IllegalStateException", Check.answer(() -> x.restore(0)));
         Check.is("slot 1 is empty", "throws IllegalStateException", Check.answer(() -> x.restore(1)));
         x.lay();
         x.clearText();
-        Check.write(x, "D12");
+        x.write("D12");
         Check.is("load of fewer orders", 0, x.load());
         Check.is("nothing is open", 0, x.about(7));
         Check.is("nothing is refunded", 0, x.about(6));
     }
 
     private static void refusesToLoad() {
-        ProgramDrum x = Check.loaded("D12o0101--50");
+        Drum x = Drum.loaded("D12o0101--50");
         x.lay();
         x.save(1);
         x.append('x');

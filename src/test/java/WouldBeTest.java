@@ -9,14 +9,14 @@ public final class WouldBeTest {
         Check.end("WouldBeTest");
     }
 
-    private static void would(ProgramDrum x, String what, int due, java.util.function.Supplier<Integer> call) {
-        String before = Check.view(x);
+    private static void would(Drum x, String what, int due, java.util.function.Supplier<Integer> call) {
+        String before = x.view();
         Check.is(what, due, call.get());
-        Check.is(what + " changes nothing", before, Check.view(x));
+        Check.is(what + " changes nothing", before, x.view());
     }
 
     private static void waits() {
-        ProgramDrum x = Check.loaded("D12o01----50o01----30");
+        Drum x = Drum.loaded("D12o01----50o01----30");
         would(x, "no place", -1, () -> x.waits(0));
         x.lay();
         would(x, "now", 0, () -> x.waits(0));
@@ -26,11 +26,11 @@ public final class WouldBeTest {
         would(x, "now again", 0, () -> x.waits(1));
         Check.fails("waits(2)", Check.INDEX, x, () -> x.waits(2));
         Check.fails("waits(-1)", Check.INDEX, x, () -> x.waits(-1));
-        Check.is("waits is no action", 2, Check.undoAll(x));
+        Check.is("waits is no action", 2, x.undoAll());
     }
 
     private static void times() {
-        ProgramDrum x = Check.loaded("D12o0301--50o1202--30o21--0120");
+        Drum x = Drum.loaded("D12o0301--50o1202--30o21--0120");
         would(x, "missing", 0, () -> x.time(0));
         x.lay();
         would(x, "told", 9, () -> x.time(0));
@@ -44,11 +44,11 @@ public final class WouldBeTest {
         Check.is("run takes that long", 7 + 5 + 49 * 12 + 4, x.about(2));
         Check.fails("time(3)", Check.INDEX, x, () -> x.time(3));
         Check.fails("time(-1)", Check.INDEX, x, () -> x.time(-1));
-        Check.is("time is no action", 5, Check.undoAll(x));
+        Check.is("time is no action", 5, x.undoAll());
     }
 
     private static void findsBestPlace() {
-        ProgramDrum x = Check.loaded("D12o0301--50o1202--30o21----20");
+        Drum x = Drum.loaded("D12o0301--50o1202--30o21----20");
         would(x, "for one without a place that ends the run", 0, () -> x.bestPlace(1, 0));
         x.move(0, 0);
         x.move(2, 4);
@@ -65,14 +65,14 @@ public final class WouldBeTest {
         Check.fails("bestPlace(0, 3)", Check.INDEX, x, () -> x.bestPlace(0, 3));
         Check.fails("bestPlace(-1, 0)", Check.INDEX, x, () -> x.bestPlace(-1, 0));
         Check.fails("bestPlace(0, -1)", Check.INDEX, x, () -> x.bestPlace(0, -1));
-        ProgramDrum full = Check.loaded("D06" + "o01----10".repeat(7));
+        Drum full = Drum.loaded("D06" + "o01----10".repeat(7));
         full.lay();
         would(full, "no free place", -1, () -> full.bestPlace(6, 0));
         would(full, "its own alone", 5, () -> full.bestPlace(5, 0));
     }
 
     private static void findsLeastBribe() {
-        ProgramDrum x = Check.loaded("D12o01----99o01----50o01----20");
+        Drum x = Drum.loaded("D12o01----99o01----50o01----20");
         would(x, "as much as the greatest, being ahead of it", 50, () -> x.leastBribe(0));
         would(x, "none is enough", -1, () -> x.leastBribe(1));
         x.change(0, 4, 98);
@@ -80,15 +80,15 @@ public final class WouldBeTest {
         would(x, "more than both", 99, () -> x.leastBribe(2));
         x.change(1, 2, 0);
         would(x, "0 will do: the place ahead of its next one", 0, () -> x.leastBribe(1));
-        Check.is("alone", 0, Check.loaded("D12o01----99").leastBribe(0));
-        ProgramDrum full = Check.loaded("D06" + "o01----10".repeat(6) + "o01----00");
+        Check.is("alone", 0, Drum.loaded("D12o01----99").leastBribe(0));
+        Drum full = Drum.loaded("D06" + "o01----10".repeat(6) + "o01----00");
         would(full, "without a place there is no delay", 11, () -> full.leastBribe(6));
         Check.fails("leastBribe(3)", Check.INDEX, x, () -> x.leastBribe(3));
         Check.fails("leastBribe(-1)", Check.INDEX, x, () -> x.leastBribe(-1));
     }
 
     private static void saves() {
-        ProgramDrum x = Check.loaded("D12o0301--50o1202--30o21----20");
+        Drum x = Drum.loaded("D12o0301--50o1202--30o21----20");
         would(x, "longer, for it was missing", -9, () -> x.saves(0));
         x.lay();
         would(x, "nothing", 0, () -> x.saves(0));
@@ -99,6 +99,6 @@ public final class WouldBeTest {
         would(x, "as long but for the beginning", 0, () -> x.saves(2));
         Check.fails("saves(3)", Check.INDEX, x, () -> x.saves(3));
         Check.fails("saves(-1)", Check.INDEX, x, () -> x.saves(-1));
-        Check.is("saves is no action", 3, Check.undoAll(x));
+        Check.is("saves is no action", 3, x.undoAll());
     }
 }
