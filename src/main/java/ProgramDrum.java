@@ -317,23 +317,15 @@ public final class ProgramDrum {
     // ---- scripts, simulations
 
     public int runScript(int n, long script) throws IllegalArgumentException {
-        if (n < 1 || n > MAX_COMMANDS || script < 0) {
+        if (n < 1 || n > MAX_COMMANDS || script < 0 || withoutLast(n, script) > 0) {
             throw new IllegalArgumentException("no such script");
         }
-        long unit = 1;
-        for (int i = 1; i < n; i++) {
-            unit *= COMMAND_SIZE;
-        }
-        if (script / unit >= COMMAND_SIZE) {
-            throw new IllegalArgumentException("the script has too many digits");
-        }
         trial.copyFrom(now);
-        for (int i = 0; i < n && unit > 0; i++) {
-            int command = (int) (script / unit % COMMAND_SIZE);
+        for (int i = 0; i < n; i++) {
+            int command = (int) (withoutLast(n - 1 - i, script) % COMMAND_SIZE);
             if (!succeeds(command)) {
                 return i;
             }
-            unit /= COMMAND_SIZE;
         }
         return NONE;
     }
@@ -441,6 +433,15 @@ public final class ProgramDrum {
         return probe.tick - state.tick;
     }
 
+    /** The script without its last commands. */
+    private static long withoutLast(int commands, long script) {
+        long rest = script;
+        for (int i = 0; i < commands; i++) {
+            rest /= COMMAND_SIZE;
+        }
+        return rest;
+    }
+
     /** Carries out a command of a script, five digits, on the trial. */
     private boolean succeeds(int command) {
         int o = command / 100 % 100;
@@ -449,7 +450,11 @@ public final class ProgramDrum {
             case 1:
                 return last == 0 && runsOnTrial(o);
             case 2:
-                return o == 0 && last == 0 && laysOnTrial();
+                if (o != 0 || last != 0) {
+                    return false;
+                }
+                trial.layAll();
+                return true;
             case 3:
                 return movesOnTrial(o, last);
             case 4:
@@ -474,11 +479,6 @@ public final class ProgramDrum {
             return false;
         }
         trial.runFrom(o);
-        return true;
-    }
-
-    private boolean laysOnTrial() {
-        trial.layAll();
         return true;
     }
 
@@ -514,9 +514,8 @@ public final class ProgramDrum {
         if (!trial.has(o)) {
             return false;
         }
-        int taken = ticksOfRun(trial, o);
-        // the probe has made that run
-        return taken <= ticks && probe.lastEnd == TOLD;
+        probe.copyFrom(trial);
+        return probe.runFrom(o) == TOLD && probe.tick - trial.tick <= ticks;
     }
 
     private boolean isCheapOnTrial(int author, int refund) {
@@ -987,37 +986,35 @@ public final class ProgramDrum {
             return isOnDrum(o) ? around(place[o] - tick) : NONE;
         }
 
+        /** Makes a run that begins with the order first; returns how it ends. */
         int runFrom(int first) {
-            lastEnd = walk(first);
-            return lastEnd;
-        }
-
-        private int walk(int first) {
+            int end = NONE;
             int from = NONE;
             int o = first;
-            for (int reads = 0; reads <= MAX_READS; reads++) {
+            for (int reads = 0; reads <= MAX_READS && end == NONE; reads++) {
                 if (!isOnDrum(o)) {
-                    return MISSING;
+                    end = MISSING;
+                } else if (from != NONE && expects[o] != NONE && expects[o] != from) {
+                    end = FORGED;
+                } else if (reads == MAX_READS) {
+                    end = TOO_LONG;
+                } else {
+                    read(o, from != NONE);
+                    if (next[o] == NONE) {
+                        end = TOLD;
+                    } else {
+                        jumps.note(o, next[o]);
+                        from = o;
+                        o = next[o];
+                    }
                 }
-                if (from != NONE && expects[o] != NONE && expects[o] != from) {
-                    return FORGED;
-                }
-                if (reads == MAX_READS) {
-                    return TOO_LONG;
-                }
-                read(o, from != NONE);
-                if (next[o] == NONE) {
-                    return TOLD;
-                }
-                jumps.note(o, next[o]);
-                from = o;
-                o = next[o];
             }
-            return TOO_LONG;
+            lastEnd = end;
+            return end;
         }
 
         private void read(int o, boolean byJump) {
-            int wait = waitFor(o);
+            int wait = around(place[o] - tick);
             tick += wait;
             lastWait[o] = wait;
             if (byJump) {
